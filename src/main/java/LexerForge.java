@@ -323,14 +323,6 @@ public final class LexerForge {
             isLeftOut = leftOut;
             hasLook = false;
             places = 0;
-            tokenPlaces = 0;
-            first = 0;
-            last = 0;
-            tokenLast = 0;
-            lookFirst = 0;
-            mayTokenBeEmpty = false;
-            mayLookBeEmpty = true;
-            useful = 0;
             for (int p = 0; p < MOST_PLACES; p++) {
                 followers[p] = 0;
             }
@@ -536,7 +528,8 @@ public final class LexerForge {
         private void readItem(Rule rule, int depth) {
             readAtom(rule, depth);
             int sign = peek();
-            if (top < 1 || sign != '*' && sign != '+' && sign != '?') {
+            boolean hasPart = top >= 1 && top <= MOST_BYTES;
+            if (!hasPart || sign != '*' && sign != '+' && sign != '?') {
                 return;
             }
             at++;
@@ -657,7 +650,7 @@ public final class LexerForge {
             int right = top - 1;
             firsts[left] |= firsts[right];
             lasts[left] |= lasts[right];
-            empties[left] |= empties[right];
+            empties[left] = empties[left] || empties[right];
             top = right;
         }
 
@@ -673,7 +666,7 @@ public final class LexerForge {
                 firsts[left] |= firsts[right];
             }
             lasts[left] = empties[right] ? lasts[left] | lasts[right] : lasts[right];
-            empties[left] &= empties[right];
+            empties[left] = empties[left] && empties[right];
             top = right;
         }
 

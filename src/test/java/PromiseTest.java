@@ -11,6 +11,8 @@ public final class PromiseTest {
         addRule();
         patternErrors();
         patternLimits();
+        patternMeanings();
+        ruleBehindErrors();
         errorAt();
         rule();
         count();
@@ -236,9 +238,62 @@ public final class PromiseTest {
         fails("((((((a", 1, 7);
         fails("((((((", 1, 6);
         stands("((((((a))))))((((((b))))))");
+        stands("a/((((((a))))))");
+        fails("a/(((((((a", 1, 8);
         fails("((((((a)(b)(", 1, 12);
         fails("((((((a)))))((", 1, 14);
         fails("((((((a)))))((((((b", 1, 17);
+    }
+
+    /** What the signs of a pattern match, told by how many words of the lengths 1 to 4 it is the answer to. */
+    private static void matches(String pattern, long... due) {
+        LexerForge x = Check.built(pattern);
+        for (int n = 0; n < due.length; n++) {
+            int length = n + 1;
+            check.same("words of " + pattern + " of length " + length, due[n], () -> x.words(0, length));
+        }
+    }
+
+    private static void patternMeanings() {
+        matches("c", 1, 0, 0, 0);
+        matches(".", 8, 0, 0, 0);
+        matches("[b-d]", 3, 0, 0, 0);
+        matches("[bd]", 2, 0, 0, 0);
+        matches("[d-b]", 0, 0, 0, 0);
+        matches("[d-bh]", 1, 0, 0, 0);
+        matches("[c-c]", 1, 0, 0, 0);
+        matches("[a-ca-bb-d]", 4, 0, 0, 0);
+        matches("ab*", 1, 1, 1, 1);
+        matches("ab+", 0, 1, 1, 1);
+        matches("ab?", 1, 1, 0, 0);
+        matches("(ab)+", 0, 1, 0, 1);
+        matches("(a|bc)+", 1, 2, 3, 5);
+        matches("ab|c", 1, 1, 0, 0);
+        matches("a(b|c)d", 0, 0, 2, 0);
+        matches("a[b-a]?", 1, 0, 0, 0);
+        matches("a/b", 0, 1, 0, 0);
+        matches("a/b*", 1, 1, 1, 1);
+        matches("a|b/c|d", 0, 4, 0, 0);
+        matches("a+/a", 0, 1, 1, 1);
+        matches("(a?b?)+c", 1, 2, 4, 8);
+    }
+
+    /** What an erroneous pattern left behind must not show in the rule that comes next. */
+    private static void ruleBehindErrors() {
+        LexerForge x = new LexerForge();
+        for (String bad : new String[] {"a?/b", "(.+.+/.)", "[a-h]+/h*.|", "a/b?/", ".+.?|(.*", "....*)"}) {
+            check.same("the error of " + bad, true, () -> Check.add(x, 3, 2, true, bad) > 0);
+        }
+        check.same("a rule behind errors", 0, () -> Check.add(x, 0, 1, false, "ab"));
+        x.build();
+        int[] due = {0, 1, 0, 0, 2, 1};
+        for (int what = 0; what < 6; what++) {
+            int w = what;
+            check.same("rule behind errors " + w, due[w], () -> x.rule(0, w));
+        }
+        check.same("states behind errors", 3, () -> x.states(0));
+        check.same("words behind errors", 1L, () -> x.words(0, 2));
+        cuts(x, "abb", 2, "0,0,2,0 -1,2,1,1", "1,3,1,0");
     }
 
     // ---- promise 5
@@ -346,6 +401,12 @@ public final class PromiseTest {
         check.same("a build that throws keeps the machines", 64, () -> x.states(1));
         check.same("a build that throws makes no new ones", 0, () -> x.states(3));
         check.same("a build that throws: isMet", false, () -> x.isMet(4));
+        Check.add(x, 0, 0, false, "abcd");
+        for (int n = 0; n < 2; n++) {
+            check.badState("again", () -> x.build());
+            check.same("a build that throws keeps the machines of smaller modes", 3, () -> x.states(0));
+            check.same("a build that throws keeps the answers", false, () -> x.isMet(5));
+        }
         LexerForge y = new LexerForge();
         Check.add(y, 3, 0, false, "(a|b)*a(a|b)(a|b)(a|b)(a|b)(a|b)(a|b)");
         check.badState("a first build that throws", () -> y.build());
@@ -601,6 +662,10 @@ public final class PromiseTest {
         cuts(Check.built("(a|ab)/(ba|a)c", "b", "ac", "bac"), "abac", 2, "0,0,2,0 2,2,2,0", "0,4,0,0");
         cuts(Check.built("a/[b-a]", "a"), "aa", 2, "1,0,1,0 1,1,1,0", "0,2,0,0");
         cuts(Check.built("a/([b-a]|b)", "b"), "ab", 2, "0,0,1,0 1,1,1,0", "0,2,0,0");
+        // The token could end later, were it not for the letters that must follow.
+        cuts(Check.built("a+/ab"), "aaab", 3, "0,0,2,0 -1,2,1,0 -1,3,1,0", "0,4,2,0");
+        cuts(Check.built("a+b*/(ba|b)"), "abba", 3, "0,0,2,0 -1,2,1,0 -1,3,1,0", "0,4,2,0");
+        cuts(Check.built("a+b*/bb"), "abbb", 3, "0,0,2,0 -1,2,1,0 -1,3,1,0", "0,4,2,0");
         // The text ends ahead of what must follow.
         cuts(Check.built("a/bc", "a"), "ab", 2, "1,0,1,0 -1,1,1,0", "0,2,1,0");
         LexerForge x = new LexerForge();
