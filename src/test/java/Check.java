@@ -5,6 +5,7 @@ final class Check {
     }
 
     private final String test;
+    private String about = "";
     private int looked;
     private int wrong;
 
@@ -26,7 +27,7 @@ final class Check {
         looked++;
         if (!got.equals(String.valueOf(due))) {
             wrong++;
-            System.out.println(test + ": " + what + " answered " + got + ", due is " + due);
+            System.out.println(test + ": " + about + what + " answered " + got + ", due is " + due);
         }
     }
 
@@ -44,6 +45,15 @@ final class Check {
 
     boolean hasFailed() {
         return wrong > 0;
+    }
+
+    int looked() {
+        return looked;
+    }
+
+    /** Sets what is told ahead of each answer that is wrong. */
+    void tellAbout(String words) {
+        about = words;
     }
 
     void end() {
