@@ -50,7 +50,7 @@ public final class MachinesBoundaryTest {
     // ---- promise 8: what a state is
 
     private static void alike() {
-        s.sentence(8, "if for each row of letters (also the empty one) that follows both the answers are the same", () -> {
+        s.sentence(8, "for each row of letters (also the empty one) that follows both the answers are the same", () -> {
             makes("-1 a1 b2 | 0 c3 | -1 c3 | 0", "ac?|bc");
             makes("-1 a1 b1 | 0 c2 | 0", "ac?|bc?");
             makes("-1 a1 c2 | -1 b3 | -1 b4 | 0 | 1", "ab", "cb");
@@ -244,6 +244,7 @@ public final class MachinesBoundaryTest {
             Check.add(x, 1, 0, false, "bc");
             s.same("with one more rule", 10, () -> x.build());
             s.same("its mode", "-1 a1 b2 | 1 | -1 c3 | 4", () -> machine(x, 1));
+            smallAgain();
         });
         s.sentence(8, "Machines are made by build(), from all rules that there are then.",
             MachinesBoundaryTest::allRules);
@@ -258,6 +259,21 @@ public final class MachinesBoundaryTest {
             s.same("with another mode", 5, () -> x.build());
         });
         s.sentence(8, "if a mode is too great", MachinesBoundaryTest::tooGreat);
+    }
+
+    /** What was found for another mode, or by the build before, must not keep apart what is alike. */
+    private static void smallAgain() {
+        LexerForge x = new LexerForge();
+        Check.add(x, 0, 0, false, "abcdefgh");
+        Check.add(x, 1, 0, false, "(a|b|c)(d|e|f)(g|h)");
+        Check.add(x, 3, 0, false, "(a|b|c|d|e)+");
+        s.same("states of three modes", 9 + 4 + 2, () -> x.build());
+        s.same("the second mode", "-1 a1 b1 c1 | -1 d2 e2 f2 | -1 g3 h3 | 1",
+            () -> machine(x, 1));
+        Check.add(x, 3, 0, false, "(a|b|c|d|e)(a|b|c|d|e)*");
+        Check.add(x, 2, 0, false, "abab|baab|bbab|aaab");
+        s.same("states of four modes", 9 + 4 + 5 + 2, () -> x.build());
+        s.same("the third mode", "-1 a1 b1 | -1 a2 b2 | -1 a3 | -1 b4 | 4", () -> machine(x, 2));
     }
 
     private static void allRules() {

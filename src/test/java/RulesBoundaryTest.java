@@ -291,7 +291,8 @@ public final class RulesBoundaryTest {
             }
         });
         s.sentence(4, ". any letter", () -> s.matches(".", 0, 8, 0));
-        s.sentence(4, "a span of two letters is from the first one to the second one; none, if the first one is greater",
+        s.sentence(4, "a span of two letters is from the first one to the second one; "
+            + "none, if the first one is greater",
             () -> {
                 s.matches("[a-a]", 0, 1, 0);
                 s.matches("[h-h]", 0, 1, 0);
@@ -307,6 +308,13 @@ public final class RulesBoundaryTest {
                 s.same("c to e begins with c", 2, () -> x.shortest(0, 0));
                 s.same("c to e has three", 3L, () -> x.words(0, 1));
             });
+        s.sentence(4, "[ ] any letter of its spans", () -> {
+            s.matches("[a]", 0, 1, 0);
+            s.matches("[ah]", 0, 2, 0);
+            s.matches("[aa]", 0, 1, 0);
+            s.matches("[a-cbb-d]", 0, 4, 0);
+            s.matches("[a-cg-h]", 0, 5, 0);
+        });
         s.sentence(4, "* is any number of times, also none, + at least once, ? once or not at all", () -> {
             s.matches("ab*", 0, 1, 1, 1, 1, 1, 1, 1, 1, 1, 1, 1, 1, 1, 1, 1, 1, 1, 1);
             s.matches("ab+", 0, 0, 1, 1, 1, 1, 1, 1, 1, 1, 1, 1, 1, 1, 1, 1, 1, 1, 1);
@@ -562,13 +570,14 @@ public final class RulesBoundaryTest {
     }
 
     private static void nothingAdded() {
-        for (String pattern : new String[] {"a)", "a*", "", "a/b/c", "abc/d?e|", "[" + "a".repeat(60)}) {
+        for (String pattern : new String[] {"a)", "a*", "", "a/b/c", "abc/d?e|", "(.+.+/", ".+.+.+)", "(.*.*)*",
+                "a?/b", "[" + "a".repeat(60)}) {
             LexerForge x = rules(11);
             x.build();
             s.same("has an error: " + pattern, true, () -> Check.add(x, 3, 2, true, pattern) > 0);
             s.same("rules behind " + pattern, 11, () -> x.count(0));
             s.badIndex("no rule 11 behind " + pattern, () -> x.rule(11, 0));
-            s.same("the next one is added, " + pattern, 0, () -> Check.add(x, 1, 0, false, "ab"));
+            s.same("the next one is added, " + pattern, 0, () -> Check.add(x, 1, 0, false, "bc"));
             s.same("mode behind " + pattern, 1, () -> x.rule(11, 0));
             s.same("next behind " + pattern, 0, () -> x.rule(11, 1));
             s.same("left out behind " + pattern, 0, () -> x.rule(11, 2));
@@ -576,7 +585,10 @@ public final class RulesBoundaryTest {
             s.same("places behind " + pattern, 2, () -> x.rule(11, 4));
             s.same("first places behind " + pattern, 1, () -> x.rule(11, 5));
             x.build();
-            s.same("words behind " + pattern, 1L, () -> x.words(11, 2));
+            for (int n = 0; n <= 18; n++) {
+                int length = n;
+                s.same("words behind " + pattern, n == 2 ? 1L : 0L, () -> x.words(11, length));
+            }
         }
     }
 
@@ -612,7 +624,8 @@ public final class RulesBoundaryTest {
             s.same("with / behind which nothing can be", 1, () -> fact(false, "a/[b-a]", 3));
             s.same("without /", 0, () -> fact(true, "a(b|c)", 3));
         });
-        s.sentence(6, "letters within a [ ] are no places of their own; a [ ] without letters is a place that matches nothing",
+        s.sentence(6, "letters within a [ ] are no places of their own; "
+            + "a [ ] without letters is a place that matches nothing",
             () -> {
                 hasPlaces("[abc-fh]", 1, 1);
                 hasPlaces("[b-a]", 1, 0);

@@ -29,7 +29,8 @@ public final class ScanningBoundaryTest {
     private static void pieces() {
         s.sentence(15, "the longest piece of the text is sought that is met by a rule of the mode (at least one byte); "
             + "its answer is the rule.", ScanningBoundaryTest::longestPieces);
-        s.sentence(15, "If there is no such piece, one byte is noted as a token with the rule -1; the mode stays.", () -> {
+        s.sentence(15, "If there is no such piece, one byte is noted as a token with the rule -1; the mode stays.",
+            () -> {
             LexerForge x = modesOfAAndB();
             s.cuts(x, "b", "-1,0,1,0 end 0,1,1,0");
             s.cuts(x, "bba", "-1,0,1,0 -1,1,1,0 0,2,1,0 end 1,3,2,0");
@@ -51,7 +52,8 @@ public final class ScanningBoundaryTest {
                 int token = b;
                 s.same("the byte " + b, b >= 97 && b <= 104 ? 0 : -1, () -> x.token(token, 0));
             }
-            s.cuts(Check.built(".+"), "ab`ab\u00e1hi", "0,0,2,0 -1,2,1,0 0,3,2,0 -1,5,1,0 0,6,1,0 -1,7,1,0 end 0,8,3,0");
+            s.cuts(Check.built(".+"), "ab`ab\u00e1hi",
+                "0,0,2,0 -1,2,1,0 0,3,2,0 -1,5,1,0 0,6,1,0 -1,7,1,0 end 0,8,3,0");
         });
     }
 
@@ -91,6 +93,9 @@ public final class ScanningBoundaryTest {
                 // The token could end later, were it not for the rest.
                 s.cuts(Check.built("a+b*/(ba|b)", ".+"), "abba", "0,0,2,0 1,2,2,0 end 0,4,0,0");
                 s.cuts(Check.built("a.?/bc", ".+"), "abc", "0,0,1,0 1,1,2,0 end 0,3,0,0");
+                s.cuts(Check.built("ab*/bb", "b+"), "abbb", "0,0,2,0 1,2,2,0 end 0,4,0,0");
+                s.cuts(Check.built("(a|bc)/c+", "c+"), "acc", "0,0,1,0 1,1,2,0 end 0,3,0,0");
+                s.cuts(Check.built("a(b|cb)?/(b|c)*d", ".+"), "acbd", "0,0,3,0 1,3,1,0 end 0,4,0,0");
             });
         s.sentence(15, "(it may be that nothing must, if that matches nothing)", () -> {
             s.cuts(Check.built("a/b?"), "a", "0,0,1,0 end 0,1,0,0");
@@ -98,8 +103,13 @@ public final class ScanningBoundaryTest {
             s.cuts(Check.built("a+/a*"), "aaa", "0,0,3,0 end 0,3,0,0");
             s.cuts(Check.built("a(bb)*/b*"), "abbb", "0,0,3,0 -1,3,1,0 end 0,4,1,0");
             s.cuts(Check.built("ab/c*"), "abab", "0,0,2,0 0,2,2,0 end 0,4,0,0");
+            LexerForge x = Check.built("a+/a*");
+            s.same("a piece of 1000 bytes", 1, () -> Check.scan(x, "a".repeat(1000)));
+            s.same("its token", "0,0,1000,0", () -> Sentences.facts(x, 0));
+            s.same("the end behind it", "0,1000,0,0", () -> Sentences.ends(x));
         });
-        s.sentence(15, "What stands ahead of a / is the token, what stands behind it must follow it in the text", () -> {
+        s.sentence(15, "What stands ahead of a / is the token, what stands behind it must follow it in the text",
+            () -> {
             s.cuts(Check.built("a/b", "a"), "a", "1,0,1,0 end 0,1,0,0");
             s.cuts(Check.built("a/b", "a"), "aab", "1,0,1,0 0,1,1,0 -1,2,1,0 end 0,3,1,0");
             s.cuts(Check.built("a/bc"), "ab", "-1,0,1,0 -1,1,1,0 end 0,2,2,0");
@@ -122,8 +132,8 @@ public final class ScanningBoundaryTest {
             s.cuts(x, "b", "-1,0,1,0 end 0,1,1,0");
             s.cuts(x, "", "end 0,0,0,0");
         });
-        s.sentence(15, "The token is noted, if the rule's tokens are not left out, and the mode becomes the next one of "
-            + "the rule; then it goes on behind the token.", () -> {
+        s.sentence(15, "The token is noted, if the rule's tokens are not left out, "
+            + "and the mode becomes the next one of the rule; then it goes on behind the token.", () -> {
                 LexerForge x = new LexerForge();
                 Check.add(x, 0, 3, true, "a/b");
                 Check.add(x, 3, 1, false, "b");
@@ -156,7 +166,7 @@ public final class ScanningBoundaryTest {
         s.same("the tape behind " + what, 0, () -> x.count(1));
     }
 
-    /** Tokens of an a each, in modes 0 and 1; b's that are left out, in modes 0 and 2; and cc, behind which a c must be. */
+    /** Tokens of an a, in modes 0 and 1; b's that are left out, in modes 0 and 2; and cc with a c behind it. */
     private static LexerForge rulesForLimit() {
         LexerForge x = new LexerForge();
         Check.add(x, 0, 1, false, "a");
@@ -434,11 +444,12 @@ public final class ScanningBoundaryTest {
                 LexerForge x = new LexerForge();
                 x.feed(0, 0, 0, 0, 0);
                 // 20 * 31 to the power of 9 is added by the second one of the eleven numbers.
-                s.same("of a new one with twenty bytes", -8715297422386501343L + 20 * 26439622160671L, () -> x.digest());
+                s.same("of a new one with twenty bytes", -8715297422386501343L + 20 * 26439622160671L,
+                    () -> x.digest());
             });
-        s.sentence(19, "what count() tells, in its order; for each rule what rule() tells, in its order; for each mode the "
-            + "number of its states, and for each of them its answer, and what next() tells, letter by letter; for each "
-            + "token what token() tells, in its order; what scanned() tells, in its order.",
+        s.sentence(19, "what count() tells, in its order; for each rule what rule() tells, in its order; "
+            + "for each mode the number of its states, and for each of them its answer, and what next() tells, "
+            + "letter by letter; for each token what token() tells, in its order; what scanned() tells, in its order.",
             ScanningBoundaryTest::digests);
     }
 
